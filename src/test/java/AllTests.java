@@ -1,0 +1,24 @@
+import java.nio.file.Path;
+
+/** Runs all tests of the project; its argument is the path of CounterDesk.java. */
+public final class AllTests {
+    private AllTests() {
+    }
+
+    public static void main(String[] args) throws Exception {
+        NotesTest.run();
+        TapeTest.run();
+        LawTest.run();
+        OrdersTest.run();
+        VoicesTest.run();
+        HeardTest.run();
+        KeepingTest.run();
+        RandomRuns.run();
+        RoomTest.run();
+        LanguageTest.run(Path.of(args.length > 0 ? args[0] : "src/main/java/CounterDesk.java"));
+        System.out.println(Check.made() + " checks of the project's own, " + Check.wrong() + " wrong");
+        if (Check.wrong() != 0) {
+            System.exit(1);
+        }
+    }
+}
