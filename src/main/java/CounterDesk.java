@@ -740,7 +740,20 @@ public final class CounterDesk {
             draft.looksBack = false;
             draft.starts[0] = 0;
             advance();
-            return clauses() ? NONE : start;
+            for (int c = 0; c < CLAUSES; c++) {
+                draft.clauses = c + 1;
+                draft.times[c] = 1;
+                if (!(isLaw ? lawClause(c) : orderClause(c)) || !condition(c)) {
+                    return start;
+                }
+                if (kind == AT_END) {
+                    return NONE;
+                }
+                if (!takeSign(';')) {
+                    return start;
+                }
+            }
+            return start;
         }
 
         private void advance() {
@@ -813,23 +826,6 @@ public final class CounterDesk {
             return is;
         }
 
-        private boolean clauses() {
-            for (int c = 0; c < CLAUSES; c++) {
-                draft.times[c] = 1;
-                if (!(isLaw ? lawClause(c) : orderClause(c))) {
-                    return false;
-                }
-                draft.clauses = c + 1;
-                if (kind == AT_END) {
-                    return true;
-                }
-                if (!takeSign(';')) {
-                    return false;
-                }
-            }
-            return false;
-        }
-
         private boolean lawClause(int c) {
             if (takeWord("bars")) {
                 draft.kinds[c] = BARS;
@@ -847,7 +843,7 @@ public final class CounterDesk {
             }
             endPiece(c, FIRST_SUM);
             endPiece(c, SECOND_SUM);
-            return condition(c);
+            return true;
         }
 
         private boolean orderClause(int c) {
@@ -874,7 +870,7 @@ public final class CounterDesk {
                 }
             }
             endPiece(c, SECOND_SUM);
-            return howOften(c) && condition(c);
+            return howOften(c);
         }
 
         private boolean howOften(int c) {
@@ -943,33 +939,23 @@ public final class CounterDesk {
                 if (!test(depth + 1) || !takeSign(')')) {
                     return false;
                 }
-            } else if (!comparison(depth)) {
-                return false;
+            } else {
+                if (!sum(depth)) {
+                    return false;
+                }
+                int op = isSign('<') ? OP_BELOW : isSign('>') ? OP_ABOVE : OP_SAME;
+                if (op == OP_SAME && !isSign('=')) {
+                    return false;
+                }
+                advance();
+                if (!sum(depth)) {
+                    return false;
+                }
+                step(op, 0);
             }
             if (turned) {
                 step(OP_NOT, 0);
             }
-            return true;
-        }
-
-        private boolean comparison(int depth) {
-            if (!sum(depth)) {
-                return false;
-            }
-            int op;
-            if (takeSign('<')) {
-                op = OP_BELOW;
-            } else if (takeSign('>')) {
-                op = OP_ABOVE;
-            } else if (takeSign('=')) {
-                op = OP_SAME;
-            } else {
-                return false;
-            }
-            if (!sum(depth)) {
-                return false;
-            }
-            step(op, 0);
             return true;
         }
 
@@ -1037,23 +1023,26 @@ public final class CounterDesk {
                 advance();
                 return true;
             }
-            return isLaw ? lawWord() : orderWord();
-        }
-
-        private boolean lawWord() {
-            int word = lawWordAtHand();
+            int word = isLaw ? lawWord() : orderWord();
             if (word == NONE) {
                 return false;
             }
-            if (word == LAW_AHEAD || word == LAW_LEAP) {
-                draft.looksBack = true;
+            advance();
+            if (isLaw) {
+                draft.looksBack |= word == LAW_AHEAD || word == LAW_LEAP;
+            } else if (word >= ORDER_HERE) {
+                if (kind != AT_NUMBER || value >= NOTES) {
+                    return false;
+                }
+                word += value;
+                advance();
             }
             step(OP_WORD, word);
-            advance();
             return true;
         }
 
-        private int lawWordAtHand() {
+        /** Where the value of the word at hand stands; NONE if LAWS have no such word. */
+        private int lawWord() {
             if (isWord("place")) {
                 return LAW_PLACE;
             }
@@ -1084,24 +1073,8 @@ public final class CounterDesk {
             return isWord("mood") ? LAW_MOOD : NONE;
         }
 
-        private boolean orderWord() {
-            int word = orderWordAtHand();
-            if (word == NONE) {
-                return false;
-            }
-            advance();
-            if (word >= ORDER_HERE) {
-                if (kind != AT_NUMBER || value >= NOTES) {
-                    return false;
-                }
-                word += value;
-                advance();
-            }
-            step(OP_WORD, word);
-            return true;
-        }
-
-        private int orderWordAtHand() {
+        /** Where the value of the word at hand stands (of NOTE 0, if it is of NOTES); NONE if ORDERS have no such word. */
+        private int orderWord() {
             if (isWord("day")) {
                 return ORDER_DAY;
             }
