@@ -165,6 +165,14 @@ final class KeepingTest {
         Check.due("of(0, 0)", x.of(0, 0), 1);
         Check.due("of(0, 1)", x.of(0, 1), 2);
         Check.due("canBe()", x.canBe(), 1);
+        x.forget();
+        x.heard(3, 50);
+        Check.due("canBe() of something else", x.canBe(), 0);
+        x.back(0);
+        Check.due("canBe(): what was HEARD is back", x.canBe(), 1);
+        x.set(0, 3);
+        Check.due("canBe(): it was APART by 1", x.canBe(), 0);
+        x.back(0);
         Check.due("fault() stays", x.fault(), 5);
         Check.due("blots() stay", x.blots(), 1);
         Check.due("stopped() stays", x.stopped(), 2);

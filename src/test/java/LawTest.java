@@ -179,7 +179,7 @@ final class LawTest {
             {"bars bars", 5}, {"costs (1)", 6}, {"costs 1001", 6}, {"costs 99999999999999999999", 6}, {"costs 1 2", 8},
             {"costs 1+", 8}, {"costs -1", 6}, {"costs [1", 8}, {"costs [1)", 8}, {"costs 1]", 7}, {"bars if", 7},
             {"bars if 1", 9}, {"bars if 1<", 10}, {"bars if 1<2<3", 11}, {"bars if (1<2", 12}, {"bars if (1)", 10},
-            {"bars if [1<2]", 10}, {"bars if 1<2 or", 14}, {"bars if 1<2 or or", 15}, {"bars if not", 11},
+            {"bars if [1<2]", 10}, {"bars if 1<2 or", 14}, {"bars if 1<2 and", 15}, {"costs 1*", 8}, {"costs placez", 6}, {"costs dlace", 6}, {"kosts 1", 0}, {"bars if 1<2 or or", 15}, {"bars if not", 11},
             {"bars if 1<2 not 1<2", 12}, {"bars if 1<2)", 11}, {"costs if 1=1", 6}, {"bars if 1=1 if 1=1", 12},
             {"Bars", 0}, {"costs heres", 6}, {"costs latest", 6}, {"costs here 1", 11}, {"costs 1 times 2", 8},
             {"set 0 to 1", 0}, {"bars\tif 1=1", 4}, {"bars if 1==1", 10}, {"bars if 1<=1", 10}, {"bars;;bars", 5},

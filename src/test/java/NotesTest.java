@@ -15,6 +15,7 @@ final class NotesTest {
         swap();
         pass();
         undo();
+        undoKeepsTheLatest();
         undoIsForgotten();
     }
 
@@ -209,6 +210,30 @@ final class NotesTest {
         }
         Check.due("undo() beyond 16", x.undo(), -3);
         Check.due("of(1, 1): two are left done", x.of(1, 1), 6);
+    }
+
+    private static void undoKeepsTheLatest() {
+        Check.about("promise 20, 16 of all kinds");
+        CounterDesk x = Check.desk(1, 2, 3, 4, 5, 6);
+        x.set(2, 20);
+        x.swap();
+        x.pass();
+        x.shift(1, 9);
+        x.set(0, 8);
+        for (int i = 0; i < 13; i++) {
+            x.pass();
+        }
+        x.swap();
+        for (int i = 0; i < 14; i++) {
+            Check.due("undo() " + i, x.undo(), i == 0 ? 2 : 3);
+        }
+        Check.due("undo() of set", x.undo(), 0);
+        Check.due("of(0, 1)", x.of(0, 1), 1);
+        Check.due("undo() of shift", x.undo(), 1);
+        Check.due("of(1, 0)", x.of(1, 0), 4);
+        Check.due("undo() beyond 16", x.undo(), -3);
+        Check.due("count(12)", x.count(12), 1);
+        Check.due("of(2, 0)", x.of(2, 0), 20);
     }
 
     private static void undoIsForgotten() {

@@ -60,6 +60,10 @@ final class OrdersTest {
         }
         Check.due("undo(): what could be undone is as it was", x.undo(), 0);
         Check.due("of(1, 1)", x.of(1, 1), 14);
+        CounterDesk few = Check.desk(1, 2);
+        few.set(0, 3);
+        Check.due("one that can't be", Check.orders(few, "pass;swap;set 5 to 5"), -3);
+        Check.due("count(4) is as it was", few.count(4), 1);
         CounterDesk none = new CounterDesk();
         Check.due("swap without NOTES", Check.orders(none, "swap"), -3);
         none.terms(0, 997);

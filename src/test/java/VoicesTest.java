@@ -290,7 +290,7 @@ final class VoicesTest {
 
     private static void parallels() {
         Check.about("promise 29");
-        CounterDesk x = Check.desk(0, 7, 2, 9, 21, 2, 5, 24, 17, 24, 4, 11, 5, 11);
+        CounterDesk x = Check.desk(0, 7, 2, 9, 21, 2, 5, 24, 17, 24, 4, 11, 6, 12);
         // APART: 7, 7, -19, 19, 7, 7, 6; the LEAP of NOTE 4 is 0.
         Check.due("parallels(7)", x.parallels(7), 2 + 4 + 8 + 32);
         Check.due("parallels(6)", x.parallels(6), 0);
