@@ -14,6 +14,7 @@ public final class AllTests {
         HeardTest.run();
         KeepingTest.run();
         RandomRuns.run();
+        EdgeRuns.run();
         RoomTest.run();
         LanguageTest.run(Path.of(args.length > 0 ? args[0] : "src/main/java/CounterDesk.java"));
         System.out.println(Check.made() + " checks of the project's own, " + Check.wrong() + " wrong");
