@@ -13,6 +13,14 @@ public final class AllTests {
         VoicesTest.run();
         HeardTest.run();
         KeepingTest.run();
+        EdgesOfNotes.run();
+        EdgesOfTape.run();
+        EdgesOfTexts.run();
+        EdgesOfLaws.run();
+        EdgesOfOrders.run();
+        EdgesOfVoices.run();
+        EdgesOfHeard.run();
+        EdgesOfKeeping.run();
         RandomRuns.run();
         EdgeRuns.run();
         RoomTest.run();
