@@ -1,8 +1,9 @@
 import java.util.Random;
 
-/** Runs of 512 random calls each, compared call by call with PlainDesk; the seeds are told, so every run is the same. */
+/** Runs of some 500 random calls each, compared call by call with PlainDesk; the seeds are told, so every run is the same. */
 final class RandomRuns {
-    private static final int CALLS = 512;
+    /** No step makes more than a hundred calls, and none must be the 513th. */
+    private static final int CALLS = 512 - 100;
     private static final String[] LAW_WORDS =
         {"place", "here", "under", "apart", "ahead", "leap", "moves", "last", "day", "mood"};
     private static final String[] ORDER_WORDS = {"day", "done", "latest", "barred", "all", "here", "under"};
@@ -279,8 +280,7 @@ final class RandomRuns {
             // Many texts would soon fill the room for LAWS.
             due("back(0)", x.back(0), y.back(0));
         }
-        x.end(0);
-        y.end(0);
+        due("end(0)", x.end(0), y.end(0));
         tape(text.getBytes(java.nio.charset.StandardCharsets.ISO_8859_1));
         if (law) {
             due("law \"" + text + "\"", x.law(), y.law());

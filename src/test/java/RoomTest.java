@@ -14,7 +14,7 @@ final class RoomTest {
         bytesOf("a new object", 400_000, () -> Check.desk(1, 1));
         bytesOf("questions", 450_000, () -> {
             CounterDesk x = full(law);
-            for (int i = 0; i < CALLS / 6 - 5; i++) {
+            for (int i = 0; i < CALLS / 6 - 10; i++) {
                 x.cheapest(i % 12, 1);
                 x.best(3);
                 x.mend(3);
@@ -25,7 +25,7 @@ final class RoomTest {
         });
         bytesOf("orders", 450_000, () -> {
             CounterDesk x = full(law);
-            for (int i = 0; i < CALLS / 8; i++) {
+            for (int i = 0; i < CALLS / 9; i++) {
                 Check.tape(x, "swap times 20;swap times 20 if all>0 and barred>0;pass times 2 if done>1");
                 x.orders();
             }
@@ -33,7 +33,7 @@ final class RoomTest {
         bytesOf("laws", 3_000_000, () -> {
             CounterDesk x = full(law);
             x.image(0);
-            for (int i = 0; i < CALLS / 12; i++) {
+            for (int i = 0; i < CALLS / 20; i++) {
                 Check.law(x, law);
                 x.back(0);
             }
