@@ -194,6 +194,17 @@ final class EdgesOfTexts {
         Check.faultOfLaw(Check.times("costs 1+1+1+1+1;", 10) + "bars;costs 1", 171);
         Check.faultOfLaw("costs " + ones(20) + " if " + ones(15) + "<" + ones(15), -1);
         Check.faultOfLaw("costs " + ones(20) + " if " + ones(15) + "<" + ones(16), 109);
+        // What is no PART at all stands where the 51st should.
+        String[] behind = {"", "  ", "+1", ";bars", " if 1=1", "*", ")", "?"};
+        for (String b : behind) {
+            int blanks = b.startsWith(" ") ? b.trim().isEmpty() ? 2 : 1 : 0;
+            Check.faultOfLaw("costs " + ones(50) + "+" + b, 106 + blanks);
+            Check.faultOfLaw("costs " + ones(50) + "%" + b, 106 + blanks);
+        }
+        Check.faultOfLaw("costs [" + ones(50) + "+]", 107);
+        Check.faultOfLaw("bars if " + ones(50) + "=", 108);
+        Check.faultOfLaw("bars if (" + ones(50) + "<)", 109);
+        Check.faultOfLaw("bars if " + ones(50) + "= or 1=1", 109);
         CounterDesk x = Check.desk(0, 0);
         Check.inForce(x, "costs " + ones(50));
         Check.due("of(0, 2) by 50 PARTS", x.of(0, 2), 50);

@@ -9,6 +9,7 @@ final class EdgesOfVoices {
 
     static void run() {
         withoutNotes();
+        withoutNotesAgain();
         withoutVoices();
         lowAtLeastHighAtMost();
         best();
@@ -26,6 +27,7 @@ final class EdgesOfVoices {
         canonBarred();
         parallels();
         compare();
+        askedAgain();
     }
 
     private static CounterDesk twelve(int under, int here) {
@@ -65,6 +67,42 @@ final class EdgesOfVoices {
                 Check.due("best(" + i + ")" + when, x.best(i), -1);
                 Check.due("mend(" + i + ")" + when, x.mend(i), -1);
             }
+        }
+    }
+
+    private static void withoutNotesAgain() {
+        Check.about("no NOTES, behind questions of some");
+        CounterDesk x = new CounterDesk();
+        Check.inForce(x, "costs 5;earns 6;bars if here=0");
+        x.image(0);
+        for (int k = 0; k < 3; k++) {
+            x.note(1, 0);
+            x.note(2, 0);
+            if (k == 1) {
+                limits(x, 0, 0);
+            }
+            x.best(-1);
+            x.mend(-1);
+            x.richest();
+            x.ways();
+            x.compass(1);
+            x.cheapest(0, 0);
+            x.compare(-1);
+            x.back(0);
+            if (k == 2) {
+                limits(x, 7, 6);
+            }
+            Check.due("best(NONE)", x.best(-1), 0);
+            Check.due("best(0)", x.best(0), -1);
+            Check.due("richest()", x.richest(), 0);
+            Check.due("ways()", x.ways(), 1);
+            Check.due("mend(NONE)", x.mend(-1), 0);
+            Check.due("mend(0)", x.mend(0), -1);
+            Check.due("compare(0)", x.compare(0), 0);
+            Check.due("between(1, 1)", x.between(1, 1), -1);
+            Check.due("cheapest(0, 1)", x.cheapest(0, 1), -1);
+            Check.due("compass(0)", x.compass(0), k == 2 ? -1 : 0);
+            Check.due("compass(1)", x.compass(1), k == 2 ? -1 : 0);
         }
     }
 
@@ -535,5 +573,42 @@ final class EdgesOfVoices {
         Check.due("compare(NONE): no VOICE", y.compare(-1), -1);
         Check.due("compare(1): no VOICE", y.compare(1), -1);
         Check.due("compare(2): no such LAW", y.compare(2), -1);
+    }
+
+    /** UNDER of two NOTES, whether there is a third one, DAY, MOOD: each row is asked behind each other one. */
+    private static void askedAgain() {
+        Check.about("what is asked again, behind the least and the most changes");
+        int[][] rows = {{0, 0, 0, 0, 0}, {0, 1, 0, 0, 0}, {1, 0, 0, 0, 0}, {0, 24, 0, 0, 0}, {1, 0, 1, 0, 0}, {0, 0, 1, 0, 0},
+            {0, 0, 0, 1, 0}, {0, 0, 0, 998, 0}, {0, 0, 0, 999, 0}, {1, 0, 0, 999, 9}, {0, 0, 0, 0, 8}, {0, 0, 0, 0, 9}, {0, 0, 0, 1, 9},
+            {24, 24, 0, 999, 9}, {24, 24, 1, 999, 9}, {2, 0, 1, 998, 1}};
+        for (int[] row : rows) {
+            CounterDesk x = prepared();
+            for (int[] other : rows) {
+                asked(x, row);
+                asked(x, other);
+            }
+        }
+    }
+
+    private static CounterDesk prepared() {
+        CounterDesk x = Check.desk(0, 0, 0, 0);
+        Check.inForce(x, "costs place*100+last*50+under*3+moves%7+day%89+mood*11;bars if not here=9");
+        x.image(0);
+        return x;
+    }
+
+    private static void asked(CounterDesk x, int[] row) {
+        x.back(0);
+        x.shift(0, row[0]);
+        x.shift(1, row[1]);
+        if (row[2] == 1) {
+            x.note(0, 0);
+        }
+        x.terms(0, row[3]);
+        x.terms(2, row[4]);
+        int notes = 2 + row[2];
+        int want = notes * (row[3] % 89 + row[4] * 11) + (row[0] + row[1]) * 3 + 50 + 100;
+        want += (row[1] - row[0]) % 7 + row[2] * (200 + -row[1] % 7);
+        Check.due("best(-1) of " + java.util.Arrays.toString(row), x.best(-1), want);
     }
 }
