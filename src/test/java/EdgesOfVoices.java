@@ -87,7 +87,7 @@ final class EdgesOfVoices {
             x.ways();
             x.compass(1);
             x.cheapest(0, 0);
-            x.compare(-1);
+            Check.due("compare(0) of some", x.compare(0), k == 1 ? -1 : 10);
             x.back(0);
             if (k == 2) {
                 limits(x, 7, 6);
