@@ -85,7 +85,7 @@ public final class CounterDesk {
 
     private static final int SUM_LIMIT = 1_000_000_000;
     /** Beyond every SUM, so that no SUM can be taken for it. */
-    private static final int BROKEN = Integer.MIN_VALUE;
+    private static final int BROKEN = -2_000_000_000;
 
     /** Words of LAWS, by where their values stand. */
     private static final int LAW_PLACE = 0;

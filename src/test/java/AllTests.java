@@ -22,9 +22,11 @@ public final class AllTests {
         EdgesOfHeard.run();
         EdgesOfKeeping.run();
         RandomRuns.run();
+        WideRuns.run();
         EdgeRuns.run();
         RoomTest.run();
         LanguageTest.run(Path.of(args.length > 0 ? args[0] : "src/main/java/CounterDesk.java"));
+        ReadmeTest.run(Path.of("README.md"));
         System.out.println(Check.made() + " checks of the project's own, " + Check.wrong() + " wrong");
         if (Check.wrong() != 0) {
             System.exit(1);

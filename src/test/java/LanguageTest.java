@@ -21,6 +21,10 @@ final class LanguageTest {
         "Thread", "System.out", "nanoTime", "currentTimeMillis", "Exception", "Object", "Exact", "String[]", "Integer[]",
         "->", "::", "protected", "volatile", "transient", "native", "static {", "interface", "Map", "Set<", "Stream");
 
+    private static final Set<String> LIBRARY = Set.of("System.arraycopy", "Arrays.copyOf", "Arrays.copyOfRange", "Arrays.fill",
+        "List.of", "Math.abs", "Math.max", "Math.min", "Math.floorDiv", "Math.floorMod", "Integer.compare", "Integer.max",
+        "Integer.min", "Integer.bitCount", "Long.compare", "Long.max", "Long.min", "Long.bitCount");
+
     private LanguageTest() {
     }
 
@@ -45,7 +49,16 @@ final class LanguageTest {
             boolean allowed = Set.of("java.util.Arrays", "java.util.ArrayList", "java.util.List").contains(imports.group(1));
             Check.due("import " + imports.group(1), allowed ? 1 : 0, 1);
         }
+        library(code);
         methods(code);
+    }
+
+    /** Rule 4 by its letter: a constant of the library that no rule lists is outside, too. */
+    private static void library(String code) {
+        Matcher uses = Pattern.compile("\\b([A-Z][a-zA-Z]*[a-z][a-zA-Z]*)\\.([a-zA-Z_]+)").matcher(code.replaceAll("import [^;]+;", ""));
+        while (uses.find()) {
+            Check.due("the library's " + uses.group(), LIBRARY.contains(uses.group()) ? 1 : 0, 1);
+        }
     }
 
     private static void face() {
